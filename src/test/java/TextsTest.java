@@ -68,16 +68,23 @@ public final class TextsTest {
             "a<b", "a<w<o", "a<w=o", "a<w>o", "a=w+1<2", "(a<w)<o", "a<w&w<o|o", "a<w&w<o<1",
             ")", "()", "(a", "(a)", "(a))", "a)", "(a+", "(a+(w)", "!", "!a", "!!!!!a", "!!!!!!", "((((((", "(((((a)))))",
             "!(!(!a))", "!(!(!!", "!(!(!(", "!a!", "!!!!!a*!!!!!w", "!!!!!a<!!!!!!", "(((((a)))))+(((((w)))))+((((((",
-            "!(((!a)))+!!!!!o", "!((((a)))+!o)", "!((((a+!o))))", "!(a)a", "a|", "a|&", "a&b", "a%", "a%w", "a/0", "a*-1", "-1", "a--1", "A", "0", "a\u00e1", "a,w"};
+            "!(((!a)))+!!!!!o", "!((((a)))+!o)", "!((((a+!o))))", "!(a)a", "a|", "a|&", "a&b", "a%", "a%w", "a/0", "a*-1", "-1", "a--1", "A", "0", "a\u00e1", "a,w", "(1)2", "(a)1", "!1!", "(a)(w)"};
         int[] due0 = {
             0, 0, 0, 0, 2, 2, 1, 1, 1, 1, 4, -1, 4, 9,
             2, 3, 3, 3, 5, -1, -1, 7,
             0, 1, 2, -1, 3, 1, 3, 6, 1, -1, -1, 5, 5, -1,
             -1, 5, 5, 2, -1, 12, 29,
-            -1, -1, 7, 4, 2, 2, 2, 2, -1, -1, 2, 0, 2, 0, -1, 1, 1};
+            -1, -1, 7, 4, 2, 2, 2, 2, -1, -1, 2, 0, 2, 0, -1, 1, 1, 3, 3, 2, 3};
         for (int i = 0; i < texts.length; i++) {
             OffForSecond x = new OffForSecond();
             due.is("14: '" + texts[i] + "'", Due.tellText(x, 0, texts[i]), due0[i] < 0 ? 1 : -10 - due0[i]);
+        }
+        for (String faulty : new String[] {"((((((", "!!!!!!", "1234", "12345", "a+", "(a<w"}) {
+            for (int i = 0; i < texts.length; i++) {
+                OffForSecond after = new OffForSecond();
+                Due.tellText(after, 0, faulty);
+                due.is("14: '" + texts[i] + "' after " + faulty, Due.tellText(after, 0, texts[i]), due0[i] < 0 ? 1 : -10 - due0[i]);
+            }
         }
         OffForSecond x = new OffForSecond();
         due.is("14: NAMES of USE 1", Due.tellText(x, 1, "s+m+o"), 1);

@@ -299,9 +299,16 @@ public final class VoicesSheetsTest {
         x.steal(0, 0);
         x.steal(0, 0);
         x.steal(0, 0);
+        x.check();
         x.tell(9);
         x.text(0);
+        Due.tellText(x, 0, "199");
+        x.feed(0x77, 1);
         x.untell(1);
+        x.leads(0, 20);
+        x.set(1, 200);
+        x.set(0, 200);
+        due.is("35: SAFE for once", x.steal(0, 0), 1);
         x.loose(3);
         for (int i = 0; i < 2; i++) {
             due.is("35: INNINGS", x.restore(), 1);
@@ -314,6 +321,7 @@ public final class VoicesSheetsTest {
             due.is("35: RUNNERS", x.count(1), 1);
             due.is("35: LEAD", x.runnerIs(0, 2), 7);
             due.is("35: CAUGHT", x.runnerIs(0, 4), 1);
+            due.is("35: STOLEN", x.runnerIs(0, 3), 0);
             due.is("35: OUTS", x.count(2), 0);
             due.is("35: WORTH", x.count(4), -99);
             due.is("35: LIFT", x.count(5), 10);

@@ -7,6 +7,7 @@ public final class WouldBeTest {
         leadFor();
         bestLead();
         bestLeadPicked();
+        safeByNothing();
         odds();
         go();
         duel();
@@ -94,6 +95,31 @@ public final class WouldBeTest {
         due.is("19: BEYOND ahead of NONE", x.bestLead(1, 2), Due.BEYOND);
         due.is("19: 0 alone is left", x.bestLead(2, 0), 0);
         due.is("19: as much", x.bestLead(2, 1), -200);
+    }
+
+    /** MARGIN 0 is SAFE, wherever it is asked. */
+    private static void safeByNothing() {
+        OffForSecond x = usual();
+        x.runner(0, 31);
+        x.leads(1, 0);
+        x.set(1, 129);
+        due.is("17: 0", x.margin(1, 0, 0), 0);
+        due.is("18: SAFE by 0", x.leadFor(1, 0), 0);
+        due.is("19: SAFE by 0", x.bestLead(1, 1), 3 * 25 + 25);
+        due.is("20: SAFE by 0", x.odds(1, 0), 3);
+        due.is("21: SAFE by 0", x.go(1, 0), 25);
+        due.is("21: SAFE by 0, by 4", x.go(1, 1), 4);
+        due.is("22: SAFE by 0", x.duel(1, 0, 0, 0), 25);
+        due.is("23: SAFE by 0", x.surely(1, 0), 1);
+        x.sheet(0, 8, 1);
+        x.put(0, 0, 1);
+        due.is("24: SAFE by 0", x.fits(0, 1, 0), 21);
+        due.is("11: SAFE by 0", x.steal(1, 0), 1);
+        x.set(0, 200);
+        Due.tellText(x, 1, "m/5");
+        x.set(1, 0);
+        due.is("19: the greatest LEAD", x.bestLead(1, 0), 20);
+        due.is("19: how much from there", x.bestLead(1, 1), 3 * ((250 - 217) / 5) + (233 - 217) / 5);
     }
 
     private static void odds() {

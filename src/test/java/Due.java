@@ -1,3 +1,7 @@
+import java.io.IOException;
+import java.nio.file.Files;
+import java.nio.file.Path;
+
 /** Counts answers that are not the ones that are due. */
 final class Due {
     static final int BEYOND = -1000000001;
@@ -7,7 +11,10 @@ final class Due {
     static final int KIND = -1000000005;
     static final int PARTED = -1000000006;
     static final int[] EXTREMES = {Integer.MIN_VALUE, Integer.MIN_VALUE + 1, -1, Integer.MAX_VALUE - 1, Integer.MAX_VALUE};
+    private static final Path DOCUMENT = Path.of("../shared/DOC.md");
 
+    private String document = "";
+    private String edge = "";
     private int asked = 0;
     private int wrong = 0;
 
@@ -15,8 +22,28 @@ final class Due {
         asked++;
         if (got != want) {
             wrong++;
-            System.out.println(call + " answered " + got + ", due is " + want);
+            System.out.println(edge + call + " answered " + got + ", due is " + want);
         }
+    }
+
+    /** What is asked from here on tests these words of the document, which must stand there as they are here. */
+    void edge(String promise, String words) {
+        edge = promise + " '" + words + "': ";
+        if (!documentInOneLine().contains(words)) {
+            wrong++;
+            System.out.println(edge + "these words are not in the document");
+        }
+    }
+
+    private String documentInOneLine() {
+        if (document.isEmpty()) {
+            try {
+                document = Files.readString(DOCUMENT).replaceAll("\\s+", " ");
+            } catch (IOException e) {
+                throw new IllegalStateException("no " + DOCUMENT, e);
+            }
+        }
+        return document;
     }
 
     /** Bytes of a TEXT come to THE TAPE one at a time; the last answer. */

@@ -135,6 +135,15 @@ public final class TextsEdgesTest {
         }
         due.is("a fault without one ahead", Due.tellText(x, 0, "9)"), -11);
         due.is("none then", x.untell(0), 0);
+        due.is("six are open", Due.tellText(x, 0, "!(!(!("), -15);
+        due.is("none of them now", Due.tellText(x, 0, "(((((a+7)))))"), 1);
+        due.is("a ( is open", Due.tellText(x, 0, "1|(2+"), -15);
+        due.is("not now", Due.tellText(x, 0, "2)"), -11);
+        due.is("signs wait", Due.tellText(x, 0, "1|!2+3*("), -18);
+        due.is("none of them now, too", Due.tellText(x, 0, "a*3"), 1);
+        due.is("nothing of them is in it", x.law(0, 5, 0, 0), 15);
+        due.is("a NUMBER of 4 digits is open", Due.tellText(x, 0, "1+1234"), 1);
+        due.is("not now, too", Due.tellText(x, 0, "5678"), 1);
     }
 
     private static void inPlaceOfOneAhead() {

@@ -628,7 +628,7 @@ public final class VoicesSheetsEdgesTest {
         for (int i = 0; i < 24; i++) {
             x.tell(-1);
         }
-        Due.feedAll(x, "((((");
+        Due.feedAll(x, "))))");
         x.untell(0);
         x.untell(1);
         x.loose(30);

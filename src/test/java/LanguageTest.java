@@ -4,7 +4,9 @@ import java.lang.reflect.Modifier;
 import java.nio.file.Files;
 import java.nio.file.Path;
 import java.util.ArrayList;
+import java.util.HashMap;
 import java.util.List;
+import java.util.Map;
 import java.util.Set;
 import java.util.TreeSet;
 import java.util.regex.Matcher;
@@ -32,6 +34,7 @@ public final class LanguageTest {
         classes();
         words();
         shapes();
+        depths();
         System.out.println("LanguageTest: " + wrong + " rules broken");
         if (wrong != 0) {
             System.exit(1);
@@ -141,5 +144,45 @@ public final class LanguageTest {
                 name = "";
             }
         }
+    }
+
+    /** By names alone: methods of one name count as one. A call back into one that stands open is recursion. */
+    private static void depths() throws Exception {
+        String bare = bare();
+        Map<String, String> bodies = new HashMap<>();
+        Matcher head = Pattern.compile("(?m)^ +(?:(?:public|private|static) )*[\\w\\[\\]]+ (\\w+)\\([^)]*\\) \\{$").matcher(bare);
+        while (head.find()) {
+            bodies.merge(head.group(1), bare.substring(head.end(), endOfBody(bare, head.end())), String::concat);
+        }
+        for (String each : FACE) {
+            String name = each.substring(0, each.indexOf('('));
+            int deep = deepest(name, bodies, new ArrayList<>());
+            so(deep >= 1 && deep <= 8, "11: eight deep: " + name + " is " + deep);
+        }
+    }
+
+    private static int endOfBody(String bare, int from) {
+        int open = 1;
+        int at = from;
+        while (open > 0 && at < bare.length()) {
+            char c = bare.charAt(at);
+            open += c == '{' ? 1 : c == '}' ? -1 : 0;
+            at++;
+        }
+        return at;
+    }
+
+    private static int deepest(String name, Map<String, String> bodies, List<String> standing) {
+        if (!bodies.containsKey(name) || standing.contains(name)) {
+            return 0;
+        }
+        standing.add(name);
+        int below = 0;
+        Matcher call = Pattern.compile("\\b(\\w+)\\(").matcher(bodies.get(name));
+        while (call.find()) {
+            below = Math.max(below, deepest(call.group(1), bodies, standing));
+        }
+        standing.remove(name);
+        return below + 1;
     }
 }
